@@ -51,6 +51,9 @@ public final class CertificateSumsPromises {
         same();
         count();
         tooGreat();
+        greatest();
+        greatestStep();
+        greatestFind();
         full();
         orderOfExceptions();
         zeroTop();
@@ -464,6 +467,67 @@ public final class CertificateSumsPromises {
         due("find over the greatest", () -> text(x, x.find(x.step(one), twenty, 8)), "0 / 1");
         x.ratio(true, 1, 1);
         due("too great: a step with n + 1", () -> x.step(twenty), FULL);
+    }
+
+    /** n (n + 1) .. , as many factors as said. */
+    private static int rising(CertificateSums x, int factors) {
+        int factor = x.letter();
+        int product = factor;
+        for (int k = 1; k < factors; k++) {
+            factor = x.moved(factor);
+            product = x.times(product, factor);
+        }
+        return product;
+    }
+
+    private static void greatest() {
+        CertificateSums x = new CertificateSums();
+        int b = rising(x, 20);
+        int f = x.over(x.number(3), b);
+        due("greatest: a sum over one BOTTOM", () -> x.same(x.add(f, f), x.over(x.number(6), b)), true);
+        int moved = x.moved(b);
+        int g = x.over(b, moved);
+        due("greatest: b through MOVED b", () -> text(x, g), "0 1 / 20 1");
+        due("greatest: least over itself", () -> x.least(b, b), -1);
+        x.ratio(false, 3, 1);
+        due("greatest: least with B of degree 3", () -> x.least(b, b), -1);
+        due("greatest: proves", () -> x.proves(f, f), false);
+    }
+
+    private static void greatestStep() {
+        // A through B is (n + 20)/n, with n^2 + 1 times both; so the step of t/b is (MOVED t - t)/b.
+        CertificateSums x = withRatio(new long[] {20, 1, 20, 1}, new long[] {0, 1, 0, 1});
+        int b = rising(x, 20);
+        int t = x.add(0, x.number(-1));
+        int t2 = x.times(t, t);
+        int t4 = x.times(t2, t2);
+        int t5 = x.times(t4, t);
+        int t10 = x.times(t5, t5);
+        int t20 = x.times(t10, t10);
+        int f = x.over(t20, b);
+        int step = x.step(f);
+        due("greatest: the step's TOP", () -> x.degree(step, true), 19);
+        due("greatest: the step's BOTTOM", () -> part(x, step, false), part(x, b, true));
+        due("greatest: the step's value", () -> x.value(step, 5) * (long) x.value(b, 5) % 32003,
+                Math.floorMod((long) x.value(t20, 6) - x.value(t20, 5), 32003L));
+        due("greatest: proves", () -> x.proves(step, f), true);
+        due("greatest: does not prove", () -> x.proves(f, f), false);
+    }
+
+    private static void greatestFind() {
+        // A and B are the same, of degree 3: the step is as with 1.
+        CertificateSums x = withRatio(new long[] {7, 5, 3, 2}, new long[] {7, 5, 3, 2});
+        int q = rising(x, 19);
+        int square = x.times(0, 0);
+        int fourth = x.times(square, square);
+        int y = x.times(fourth, fourth);
+        int f = x.over(x.add(y, x.number(1)), q);
+        int r = x.step(f);
+        due("greatest: r's BOTTOM", () -> x.degree(r, false), 20);
+        due("greatest: least", () -> x.least(r, q), 8);
+        due("greatest: find with 7", () -> x.find(r, q, 7), -1);
+        due("greatest: find with 8", () -> x.same(x.find(r, q, 8), f), true);
+        due("greatest: free", () -> x.free(q, 8), 0);
     }
 
     private static void full() {
