@@ -5,31 +5,7 @@ import java.util.Arrays;
 import java.util.TreeSet;
 
 /** What the document promises, one promise after the other, on examples worked out by hand. */
-public final class CertificateSumsPromises {
-    private static final String NONE = "throws.IndexOutOfBoundsException";
-    private static final String ZERO = "throws.ArithmeticException";
-    private static final String WRONG = "throws.IllegalArgumentException";
-    private static final String FULL = "throws.IllegalStateException";
-
-    private static int wrong = 0;
-
-    private interface Call {
-        Object answer();
-    }
-
-    private static void due(String what, Call call, Object want) {
-        String got;
-        try {
-            got = String.valueOf(call.answer());
-        } catch (RuntimeException e) {
-            got = "throws." + e.getClass().getSimpleName();
-        }
-        if (!got.equals(String.valueOf(want))) {
-            wrong++;
-            System.out.println(what + " answered " + got + ", due is " + want);
-        }
-    }
-
+public final class CertificateSumsPromises extends Checks {
     public static void main(String[] args) {
         face();
         newObject();
@@ -57,50 +33,7 @@ public final class CertificateSumsPromises {
         full();
         orderOfExceptions();
         zeroTop();
-        System.out.println(wrong == 0 ? "all answers are as due" : wrong + " answers are not as due");
-        if (wrong != 0) {
-            System.exit(1);
-        }
-    }
-
-    /** A polynomial as a function, its numbers from the power 0 up. */
-    private static int polynomial(CertificateSums x, long... numbers) {
-        int n = x.letter();
-        int sum = x.number(0);
-        for (int k = numbers.length - 1; k >= 0; k--) {
-            sum = x.times(sum, n);
-            sum = x.add(sum, x.number(numbers[k]));
-        }
-        return sum;
-    }
-
-    private static String text(CertificateSums x, int f) {
-        return part(x, f, true) + " / " + part(x, f, false);
-    }
-
-    private static String part(CertificateSums x, int f, boolean top) {
-        StringBuilder text = new StringBuilder();
-        for (int k = 0; k <= x.degree(f, top); k++) {
-            text.append(k == 0 ? "" : " ").append(x.at(f, top, k));
-        }
-        return x.degree(f, top) < 0 ? "0" : text.toString();
-    }
-
-    private static CertificateSums withRatio(long[] a, long[] b) {
-        CertificateSums x = new CertificateSums();
-        for (int k = 0; k < 4; k++) {
-            x.ratio(true, k, k < a.length ? a[k] : 0);
-            x.ratio(false, k, k < b.length ? b[k] : 0);
-        }
-        return x;
-    }
-
-    private static CertificateSums filled() {
-        CertificateSums x = new CertificateSums();
-        for (int k = 0; k < 50; k++) {
-            x.number(k);
-        }
-        return x;
+        finish();
     }
 
     private static void face() {
