@@ -1,13 +1,6 @@
-import java.lang.reflect.Constructor;
-import java.lang.reflect.Method;
-import java.lang.reflect.Modifier;
-import java.util.Arrays;
-import java.util.TreeSet;
-
 /** What the document promises, one promise after the other, on examples worked out by hand. */
 public final class CertificateSumsPromises extends Checks {
     public static void main(String[] args) {
-        face();
         newObject();
         ratio();
         number();
@@ -34,23 +27,6 @@ public final class CertificateSumsPromises extends Checks {
         orderOfExceptions();
         zeroTop();
         finish();
-    }
-
-    private static void face() {
-        TreeSet<String> names = new TreeSet<>();
-        for (Method m : CertificateSums.class.getDeclaredMethods()) {
-            if (!Modifier.isPrivate(m.getModifiers())) {
-                names.add(m.getName() + Arrays.toString(m.getParameterTypes()) + m.getReturnType());
-            }
-        }
-        due("the face", () -> names, new TreeSet<>(Arrays.asList(
-                "ratio[boolean, int, long]boolean", "number[long]int", "letter[]int", "add[int, int]int",
-                "times[int, int]int", "over[int, int]int", "moved[int]int", "step[int]int",
-                "proves[int, int]boolean", "find[int, int, int]int", "least[int, int]int",
-                "free[int, int]int", "degree[int, boolean]int", "at[int, boolean, int]int",
-                "value[int, long]int", "same[int, int]boolean", "count[]int")));
-        Constructor<?>[] makers = CertificateSums.class.getDeclaredConstructors();
-        due("one constructor", () -> makers.length + " " + makers[0].getParameterCount(), "1 0");
     }
 
     private static void newObject() {
